@@ -146,7 +146,7 @@ public final class ModelTest {
             }
             case 14:
             case 15: {
-                int n = from(1, 60);
+                int n = chance(50) ? from(1, 3) : from(1, 60);
                 int what = chance(80) ? from(0, 5) : from(10, 17);
                 due.is("tried(" + n + ", " + what + ")", x.tried(n, what), m.tried(n, what));
                 break;
@@ -267,7 +267,20 @@ public final class ModelTest {
         return spoilt.toString();
     }
 
+    /** A law of the kind that makes first goes worth their coins. */
+    private String searchLaw() {
+        StringBuilder text = new StringBuilder();
+        text.append('v').append(1 + below(4)).append('(').append(chance(50) ? "1=1" : condition(1)).append(");");
+        text.append('v').append(chance(50) ? "2" : sum(0)).append("(1=1);");
+        text.append('c').append(chance(50) ? "1+q" : sum(0)).append("(1=1)");
+        text.append(chance(50) ? ";a(m>" + below(3) + ")" : "");
+        return text.toString();
+    }
+
     private String law() {
+        if (chance(40)) {
+            return searchLaw();
+        }
         StringBuilder text = new StringBuilder();
         int clauses = chance(3) ? 17 : 1 + below(6);
         for (int i = 0; i < clauses; i++) {
