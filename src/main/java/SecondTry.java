@@ -65,13 +65,10 @@ public final class SecondTry {
 
     private static final int MOST_CHOICE = 4;
     private static final int MOST_EXTRA = 3;
-    /** A kind's pair of more tries (0 to 3) and of those that counted (not more) is one of ten. */
-    private static final int PAIRS = 10;
-    private static final int[] PAIR_EXTRA = {0, 1, 1, 2, 2, 2, 3, 3, 3, 3};
-    private static final int[] PAIR_COUNTED = {0, 0, 1, 0, 1, 2, 0, 1, 2, 3};
-    private static final int[] PAIR_UNCOUNTED = {0, 1, 3, 6};
-    private static final int MOST_STATES = 4000;
     private static final int MOST_GOES = 3;
+    /** A state of a search: two bits for each kind, its tries more; above them one for each, whether it counted. */
+    private static final int COUNTED_BITS = 8;
+    private static final int STATES = 4096;
     private static final int MOST_DEPTH = 12;
     private static final int NEVER = 1 << 20;
     /** A way is hours times this and its tries, so that of like hours the fewest tries are least. */
@@ -1258,25 +1255,22 @@ public final class SecondTry {
     }
 
     /**
-     * Looks for the soonest and the cheapest way to a kind that counts, through states: a digit for each kind
-     * of the choice, the aim's last: how many tries more; the others': their pair. Each try and each first go
-     * makes a digit greater, so that no state comes again.
+     * Looks for the soonest and the cheapest way to a kind that counts, through states. Each try and each first
+     * go is one more of its kind, so that no state comes again. How often a kind counted on the way does not
+     * matter, only whether it did: others ask no more of what they need, and the aim ends the way.
      */
     private static final class Search {
         final Kinds kinds;
         final Judge judge;
         final Clerk clerk;
         final int[] choice = new int[MOST_CHOICE];
-        final int[] weights = new int[MOST_CHOICE];
-        final int[] hasTries = new int[MOST_CHOICE];
         final int[] hasOld = new int[MOST_CHOICE];
         final int[] alikes = new int[MOST_CHOICE];
         final int[] lacks = new int[MOST_CHOICE];
         final int[] prices = new int[MOST_CHOICE];
-        final int[] voids = new int[MOST_CHOICE * PAIRS];
-        final int[] ways = new int[MOST_STATES * (MOST_GOES + 1)];
+        final int[] voids = new int[MOST_CHOICE * (MOST_EXTRA + 1)];
+        final int[] ways = new int[STATES * (MOST_GOES + 1)];
         int size;
-        int states;
         int aim;
         int bestCoins;
         int bestHours;
@@ -1289,31 +1283,28 @@ public final class SecondTry {
 
         void prepare(Town town, int p, int bits, int k) {
             size = 0;
-            states = 1;
-            for (int j = 0; j < KINDS && size < MOST_CHOICE - 1; j++) {
-                if (j != k && (bits >> j & 1) == 1) {
-                    addKind(town, p, j);
-                    states *= PAIRS;
+            for (int j = 0; j < KINDS && size < MOST_CHOICE; j++) {
+                if ((bits >> j & 1) == 1) {
+                    aim = j == k ? size : aim;
+                    choice[size] = j;
+                    size++;
                 }
             }
-            aim = size;
-            addKind(town, p, k);
-            states *= MOST_EXTRA + 1;
             for (int i = 0; i < size; i++) {
                 int alikeKinds = judge.alikes(choice[i], town.day);
                 hasOld[i] = town.triesAmong(p, alikeKinds);
                 alikes[i] = toPlaces(alikeKinds);
                 lacks[i] = lackedPlaces(town, p, kinds.needs[choice[i]]);
+                askVoids(town, p, i);
             }
+            Arrays.fill(ways, NONE);
         }
 
         int soonestWay(int goes) {
-            forgetWays(goes);
             return bestWay(0, goes, 0);
         }
 
         void findCheapest(Town town, int p, int hours) {
-            forgetWays(0);
             for (int i = 0; i < size; i++) {
                 prices[i] = leastPrice(town, p, choice[i]);
             }
@@ -1322,28 +1313,16 @@ public final class SecondTry {
             tryGoes(0, 0, 0, MOST_GOES, hours);
         }
 
-        private void forgetWays(int goes) {
-            int used = states * (goes + 1);
-            for (int i = 0; i < used && i < ways.length; i++) {
-                ways[i] = NONE;
+        /** What is void of a kind that did not count on the way hangs on its own tries more alone. */
+        private void askVoids(Town town, int p, int place) {
+            int k = choice[place];
+            int cell = p * KINDS + k;
+            int byAll = town.triesByAll(k);
+            judge.tellTry(k, town.day, p, NOBODY);
+            for (int extra = 0; extra <= MOST_EXTRA; extra++) {
+                judge.tellNumbers(town.tries[cell] + extra, byAll + extra, town.counted[cell]);
+                voids[place * (MOST_EXTRA + 1) + extra] = judge.voidTries();
             }
-        }
-
-        /** What is void of a kind hangs on its own pair alone, so it is asked once for each. */
-        private void addKind(Town town, int p, int j) {
-            int cell = p * KINDS + j;
-            int byAll = town.triesByAll(j);
-            choice[size] = j;
-            weights[size] = states;
-            hasTries[size] = town.tries[cell];
-            judge.tellTry(j, town.day, p, NOBODY);
-            for (int pair = 0; pair < PAIRS; pair++) {
-                int more = gained(size, pair);
-                int counted = Math.min(MOST_TRIES, town.counted[cell] + PAIR_COUNTED[pair]);
-                judge.tellNumbers(town.tries[cell] + more, byAll + more, counted);
-                voids[size * PAIRS + pair] = judge.voidTries();
-            }
-            size++;
         }
 
         private int toPlaces(int bits) {
@@ -1390,13 +1369,13 @@ public final class SecondTry {
                 return;
             }
             for (int bought = 0; bought <= goes && (bought == 0 || prices[place] < NEVER); bought++) {
-                int more = weights[place] * (place == aim ? bought : PAIR_UNCOUNTED[bought]);
+                int more = bought << 2 * place;
                 tryGoes(place + 1, state + more, coins + bought * prices[place], goes - bought, hours);
             }
         }
 
         private int bestWay(int state, int goes, int depth) {
-            int slot = goes * states + state;
+            int slot = goes * STATES + state;
             if (slot < 0 || slot >= ways.length || depth > MOST_DEPTH) {
                 return NEVER;
             }
@@ -1405,11 +1384,11 @@ public final class SecondTry {
             }
             int best = NEVER;
             for (int i = 0; i < size; i++) {
-                int extra = PAIR_EXTRA[pairAt(state, i)];
-                if (extra < MOST_EXTRA) {
-                    int next = state + weights[i] * (i == aim ? 1 : extra + 1);
+                if (extraAt(state, i) < MOST_EXTRA) {
+                    int next = state + (1 << 2 * i);
                     boolean counts = wouldCount(state, i);
-                    int rest = counts && i == aim ? 0 : bestWay(counts ? next + weights[i] : next, goes, depth + 1);
+                    int then = counts ? next | 1 << COUNTED_BITS + i : next;
+                    int rest = counts && i == aim ? 0 : bestWay(then, goes, depth + 1);
                     best = Math.min(best, WAY_HOUR * kinds.hours[choice[i]] + 1 + rest);
                     if (goes > 0) {
                         best = Math.min(best, bestWay(next, goes - 1, depth + 1));
@@ -1420,29 +1399,19 @@ public final class SecondTry {
             return best;
         }
 
-        private int pairAt(int state, int place) {
-            int weight = weights[place];
-            int digit = weight > 0 ? state / weight % PAIRS : 0;
-            return place == aim ? PAIR_UNCOUNTED[digit & 3] : digit;
-        }
-
-        private int gained(int place, int pair) {
-            return Math.min(MOST_TRIES - hasTries[place], PAIR_EXTRA[pair]);
+        private static int extraAt(int state, int place) {
+            return state >> 2 * place & 3;
         }
 
         private boolean wouldCount(int state, int place) {
-            if (lacks[place] == NONE) {
+            if (lacks[place] == NONE || (lacks[place] & ~(state >> COUNTED_BITS)) != 0) {
                 return false;
             }
             int old = hasOld[place];
             for (int i = 0; i < size; i++) {
-                int pair = pairAt(state, i);
-                if ((lacks[place] >> i & 1) == 1 && PAIR_COUNTED[pair] == 0) {
-                    return false;
-                }
-                old += (alikes[place] >> i & 1) == 1 ? gained(i, pair) : 0;
+                old += (alikes[place] >> i & 1) == 1 ? extraAt(state, i) : 0;
             }
-            return old >= voids[place * PAIRS + pairAt(state, place)];
+            return old >= voids[place * (MOST_EXTRA + 1) + extraAt(state, place)];
         }
     }
 

@@ -677,6 +677,13 @@ public final class PromisesTest {
         is("three goes together", x.cheapest(0, 17, 4, 6, 1), 6);
         is("goes of none", x.cheapest(0, 17, 4, 9, 0), 0);
         is("goes of none", x.cheapest(0, 17, 4, 9, 1), 8);
+        x = withNeeds("c3(1=1);v2(k=4);v1(1=1)");
+        x.tries(1, 0, -1);
+        x.tries(1, 4, -1);
+        is("three goes together", x.cheapest(0, 17, 4, 6, 0), 9);
+        is("not four", x.cheapest(0, 17, 4, 5, 0), -2);
+        is("of like coins the fewest hours", x.cheapest(0, 17, 4, 16, 0), 3);
+        is("of like coins the fewest hours", x.cheapest(0, 17, 4, 16, 1), 12);
         x = withNeeds("c3(1=1);v0(k=0&n=0);v9(k=0);v0(1=1)");
         x.tries(1, 0, -1);
         is("goes come ahead of all tries", x.cheapest(0, 17, 4, 200, 1), 6);
@@ -984,6 +991,10 @@ public final class PromisesTest {
         is("the first four", x.check(0, 4), SecondTry.NONE);
         x.feed(Integer.MIN_VALUE, 1, 0, 0, 0);
         is("four bytes", x.check(0, 1), 0);
+        x.feed(1 << 16, 1, 0, 0, 0);
+        is("four bytes", x.check(0, 1), 0);
+        x.feed(1 << 8, 1, 0, 0, 0);
+        is("four bytes", x.check(0, 1), 0);
         x.feed(0, 1, 0, 0, 0);
         x.feed(0, 0, 0, 0, 0);
         x.feed(0, 0, 3, 0, 0);
@@ -1049,5 +1060,18 @@ public final class PromisesTest {
         is("999 tries", x.has(0, 0, 0), 999);
         is("998 are left", x.has(1, 0, 0), 998);
         is("soonest", x.soonest(0, 1, 0, 0, 0), 1);
+        x.feed(999, 0, 0, 0, 0);
+        is("check of 999", x.check(0, 1), SecondTry.NONE);
+        x.feed(999 + 256, 0, 0, 0, 0);
+        is("check of more", x.check(0, 1), 0);
+        x = townWithLaw("f2000(k=0)");
+        x.tries(0, 0, -1);
+        for (int i = 0; i < 16; i++) {
+            x.days(60);
+        }
+        x.days(38);
+        is("behind 998 days", x.has(0, 0, 3), 1);
+        x.days(1);
+        is("behind 999 days: f is 999 at most", x.has(0, 0, 3), 0);
     }
 }
