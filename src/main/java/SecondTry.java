@@ -1014,13 +1014,18 @@ public final class SecondTry {
             return true;
         }
 
-        void tellTry(int k, int day, int p, int with) {
-            tellDeed(k, kinds.hours[k], kinds.marks[k], day);
-            told[LETTER_P] = p;
-            told[LETTER_Q] = with;
+        /** Where a letter is not told, it is 0. */
+        void tellDeed(int k, int hours, int marks, int day) {
+            Arrays.fill(told, 0);
+            told[LETTER_K] = k;
+            told[LETTER_H] = hours;
+            told[LETTER_X] = marks;
+            told[LETTER_D] = day;
         }
 
-        void tellNumbers(int tries, int byAll, int counted) {
+        void tellTry(int p, int with, int tries, int byAll, int counted) {
+            told[LETTER_P] = p;
+            told[LETTER_Q] = with;
             told[LETTER_N] = tries;
             told[LETTER_O] = byAll;
             told[LETTER_W] = counted;
@@ -1042,14 +1047,6 @@ public final class SecondTry {
                 }
             }
             return answer;
-        }
-
-        private void tellDeed(int k, int hours, int marks, int day) {
-            Arrays.fill(told, 0);
-            told[LETTER_K] = k;
-            told[LETTER_H] = hours;
-            told[LETTER_X] = marks;
-            told[LETTER_D] = day;
         }
 
         private boolean isAlike(int j) {
@@ -1249,8 +1246,9 @@ public final class SecondTry {
 
         /** Tells the judge all letters of a try, or of a first go, as the town is now. */
         void tellAll(Town town, int p, int k, int with) {
-            judge.tellTry(k, town.day, p, with);
-            judge.tellNumbers(town.tries[p * KINDS + k], town.triesByAll(k), town.counted[p * KINDS + k]);
+            int cell = p * KINDS + k;
+            judge.tellDeed(k, kinds.hours[k], kinds.marks[k], town.day);
+            judge.tellTry(p, with, town.tries[cell], town.triesByAll(k), town.counted[cell]);
         }
     }
 
@@ -1318,9 +1316,9 @@ public final class SecondTry {
             int k = choice[place];
             int cell = p * KINDS + k;
             int byAll = town.triesByAll(k);
-            judge.tellTry(k, town.day, p, NOBODY);
+            judge.tellDeed(k, kinds.hours[k], kinds.marks[k], town.day);
             for (int extra = 0; extra <= MOST_EXTRA; extra++) {
-                judge.tellNumbers(town.tries[cell] + extra, byAll + extra, town.counted[cell]);
+                judge.tellTry(p, NOBODY, town.tries[cell] + extra, byAll + extra, town.counted[cell]);
                 voids[place * (MOST_EXTRA + 1) + extra] = judge.voidTries();
             }
         }
