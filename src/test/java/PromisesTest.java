@@ -853,6 +853,7 @@ public final class PromisesTest {
         is("the one that parts best", histories(x, two, 2, 2), 1);
         is("of like ones the lowest", histories(x, new int[] {2, 3}, 2, 2), 0);
         is("the next one tells", histories(x, new int[] {2, 3}, 2, 2, 0, 1), 1);
+        is("four and four part better than two and six", histories(x, new int[] {2, 3}, 3, 2, 1, 0, 1, 0), 1);
         is("the next one of three", histories(x, new int[] {2, 3, 1}, 2, 2, 0, 1, 1, 1), 2);
         x.kind(4, 1, 0, 1);
         is("no needs", histories(x, new int[] {4}, 0, 0, 0, 1), 4);
