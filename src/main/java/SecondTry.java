@@ -66,9 +66,12 @@ public final class SecondTry {
     private static final int MOST_CHOICE = 4;
     private static final int MOST_EXTRA = 3;
     private static final int MOST_GOES = 3;
-    /** A state of a search: two bits for each kind, its tries more; above them one for each, whether it counted. */
+    /**
+     * A state of a search: two bits for each kind, its tries more; above them one for each, whether it counted,
+     * but none for the last of four: its number is highest, so that no other one needs it.
+     */
     private static final int COUNTED_BITS = 8;
-    private static final int STATES = 4096;
+    private static final int STATES = 2048;
     private static final int MOST_DEPTH = 12;
     private static final int NEVER = 1 << 20;
     /** A way is hours times this and its tries, so that of like hours the fewest tries are least. */
@@ -1385,7 +1388,7 @@ public final class SecondTry {
                 if (extraAt(state, i) < MOST_EXTRA) {
                     int next = state + (1 << 2 * i);
                     boolean counts = wouldCount(state, i);
-                    int then = counts ? next | 1 << COUNTED_BITS + i : next;
+                    int then = counts && i < MOST_CHOICE - 1 ? next | 1 << COUNTED_BITS + i : next;
                     int rest = counts && i == aim ? 0 : bestWay(then, goes, depth + 1);
                     best = Math.min(best, WAY_HOUR * kinds.hours[choice[i]] + 1 + rest);
                     if (goes > 0) {

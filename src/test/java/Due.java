@@ -1,3 +1,5 @@
+import java.util.function.IntSupplier;
+
 /** Counts answers that are as due, and prints those that are not. */
 final class Due {
     private int right;
@@ -23,6 +25,23 @@ final class Due {
         is(call, got ? 1 : 0, want ? 1 : 0);
     }
 
+    /** A call that is refused: all is as it was, the tape too. */
+    void refuses(SecondTry x, String call, int answer, IntSupplier asked) {
+        String before = Towns.look(x);
+        int tape = x.count(4);
+        is(call, asked.getAsInt(), answer);
+        is(call + " leaves the town as it was", Towns.look(x).equals(before), true);
+        is(call + " leaves the tape", x.count(4), tape);
+    }
+
+    /** A call that takes its bytes and answers something: all else is as it was, the tape is empty. */
+    void empties(SecondTry x, String call, int answer, IntSupplier asked) {
+        String before = Towns.look(x);
+        is(call, asked.getAsInt(), answer);
+        is(call + " leaves the town as it was", Towns.look(x).equals(before), true);
+        is(call + " empties the tape", x.count(4), 0);
+    }
+
     int wrong() {
         return wrong;
     }
@@ -32,40 +51,5 @@ final class Due {
         if (wrong != 0) {
             System.exit(1);
         }
-    }
-
-    /** Feeds bytes; behind the last one 'a' fills what is left of the twenty. */
-    static void feed(SecondTry x, String text) {
-        for (int at = 0; at < text.length(); at += 20) {
-            int[] w = words(text, at);
-            x.feed(w[0], w[1], w[2], w[3], w[4]);
-        }
-    }
-
-    static int[] words(String text, int at) {
-        int[] words = new int[5];
-        for (int i = 0; i < 20; i++) {
-            int sign = at + i < text.length() ? text.charAt(at + i) : 'a';
-            words[i / 4] = words[i / 4] << 8 | sign;
-        }
-        return words;
-    }
-
-    static int law(SecondTry x, String text) {
-        feed(x, text);
-        return x.law(text.length());
-    }
-
-    static int plan(SecondTry x, int p, String text) {
-        feed(x, text);
-        return x.plan(p, text.length());
-    }
-
-    static String bytes(int... values) {
-        StringBuilder text = new StringBuilder();
-        for (int value : values) {
-            text.append((char) value);
-        }
-        return text.toString();
     }
 }

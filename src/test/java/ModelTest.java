@@ -206,7 +206,7 @@ public final class ModelTest {
 
     private void feed(String text) {
         for (int at = 0; at < text.length(); at += 20) {
-            int[] w = Due.words(text, at);
+            int[] w = Towns.words(text, at);
             due.is("feed", x.feed(w[0], w[1], w[2], w[3], w[4]), m.feed(w[0], w[1], w[2], w[3], w[4]));
         }
     }

@@ -43,22 +43,8 @@ public final class PromisesTest {
         DUE.is(call, got, want);
     }
 
-    /** Kinds 0 to 3 of 1 to 4 hours without marks or needs, people 0 to 2 with 100 coins. */
-    private static SecondTry town() {
-        SecondTry x = new SecondTry();
-        for (int k = 0; k < 4; k++) {
-            x.kind(k, k + 1, 0, 0);
-        }
-        for (int p = 0; p < 3; p++) {
-            x.person(p, 100);
-        }
-        return x;
-    }
-
     private static SecondTry townWithLaw(String text) {
-        SecondTry x = town();
-        DUE.is("law " + text, Due.law(x, text) > 0, true);
-        return x;
+        return Towns.withLaw(DUE, text);
     }
 
     private static void newObject() {
@@ -150,7 +136,7 @@ public final class PromisesTest {
         is("the tape stays", x.count(4), 20);
         is("a byte 0", x.law(20), -1000);
         is("the tape is empty", x.count(4), 0);
-        is("one clause", Due.law(x, "v2(1=1)"), 1);
+        is("one clause", Towns.law(x, "v2(1=1)"), 1);
         is("clauses", x.count(3), 1);
         String[] texts = {"", "v", "vk", "v(1=1)", "v1(1=1", "v1(1)", "v1(1=)", "v1(=1)", "v1()", "v1(1=1))", "v1(1=1);",
             "v1(1=1);;", "v1(1=1)v", "b1(1=1)", "V1(1=1)", "v1 (1=1)", "v-1(1=1)", "v1+(1=1)", "v1*+1(1=1)", "v[1(1=1)", "v[](1=1)",
@@ -161,22 +147,22 @@ public final class PromisesTest {
             2, 1, 1, 1, 1, 6, 5, 5, 5,
             7, 7, 3, 4, 4, 5, 6, 3, 7};
         for (int i = 1; i < texts.length; i++) {
-            is(texts[i], Due.law(x, texts[i]), -1000 - places[i]);
+            is(texts[i], Towns.law(x, texts[i]), -1000 - places[i]);
         }
-        is("five digits", Due.law(x, "v99999(00000=1)"), 1);
-        is("a sixth digit", Due.law(x, "v1(123456=1)"), -2008);
-        is("a sixth digit before what can't stand", Due.law(x, "v0000001"), -2006);
-        is("six open", Due.law(x, "a(!!!!!1=1)"), 1);
-        is("seven open by !", Due.law(x, "a(!!!!!!1=1)"), -5007);
-        is("seven open by [", Due.law(x, "a(!!!!![1]=1)"), -5007);
-        is("seven open by (", Due.law(x, "a(!(!(!(1=1))))"), -5007);
-        is("a ! closes with its piece", Due.law(x, "a(!1=1&!1=1&!1=1&!1=1&!1=1&!1=1&!1=1)"), 1);
-        is("a ! closes with its ( )", Due.law(x, "a(!(!(1=1))&(!(!(1=1))))"), 1);
-        is("[ in a sum", Due.law(x, "v[[[[[[1]]]]]](1=1)"), 1);
-        is("a seventh [ in a sum", Due.law(x, "v[[[[[[[1]]]]]]](1=1)"), -5007);
-        is("a sixth [ in a condition", Due.law(x, "v1([[[[[[1]]]]]]=1)"), -5008);
-        is("a [ that can't stand, though seventh", Due.law(x, "a(!!!!!1[1]=1)"), -1008);
-        is("the end", Due.law(x, "a(1=1&"), -1006);
+        is("five digits", Towns.law(x, "v99999(00000=1)"), 1);
+        is("a sixth digit", Towns.law(x, "v1(123456=1)"), -2008);
+        is("a sixth digit before what can't stand", Towns.law(x, "v0000001"), -2006);
+        is("six open", Towns.law(x, "a(!!!!!1=1)"), 1);
+        is("seven open by !", Towns.law(x, "a(!!!!!!1=1)"), -5007);
+        is("seven open by [", Towns.law(x, "a(!!!!![1]=1)"), -5007);
+        is("seven open by (", Towns.law(x, "a(!(!(!(1=1))))"), -5007);
+        is("a ! closes with its piece", Towns.law(x, "a(!1=1&!1=1&!1=1&!1=1&!1=1&!1=1&!1=1)"), 1);
+        is("a ! closes with its ( )", Towns.law(x, "a(!(!(1=1))&(!(!(1=1))))"), 1);
+        is("[ in a sum", Towns.law(x, "v[[[[[[1]]]]]](1=1)"), 1);
+        is("a seventh [ in a sum", Towns.law(x, "v[[[[[[[1]]]]]]](1=1)"), -5007);
+        is("a sixth [ in a condition", Towns.law(x, "v1([[[[[[1]]]]]]=1)"), -5008);
+        is("a [ that can't stand, though seventh", Towns.law(x, "a(!!!!!1[1]=1)"), -1008);
+        is("the end", Towns.law(x, "a(1=1&"), -1006);
         is("clauses stay", x.count(3), 1);
         clauses(x);
     }
@@ -186,11 +172,11 @@ public final class PromisesTest {
         for (int i = 1; i < 16; i++) {
             text.append(";a(1=1)");
         }
-        is("16 clauses", Due.law(x, text.toString()), 16);
+        is("16 clauses", Towns.law(x, text.toString()), 16);
         is("clauses", x.count(3), 16);
-        is("a 17th", Due.law(x, text + ";c"), -4112);
-        is("a 17th that can't stand", Due.law(x, text + ";d"), -1112);
-        is("no 17th", Due.law(x, text + ";"), -1112);
+        is("a 17th", Towns.law(x, text + ";c"), -4112);
+        is("a 17th that can't stand", Towns.law(x, text + ";d"), -1112);
+        is("no 17th", Towns.law(x, text + ";"), -1112);
         is("clauses stay", x.count(3), 16);
         text.setLength(0);
         text.append("v1(11=1");
@@ -199,7 +185,7 @@ public final class PromisesTest {
         }
         text.append(")");
         is("240 bytes", text.length(), 240);
-        is("a law of 240 bytes", Due.law(x, text.toString()), 1);
+        is("a law of 240 bytes", Towns.law(x, text.toString()), 1);
         is("clauses", x.count(3), 1);
     }
 
@@ -220,14 +206,14 @@ public final class PromisesTest {
             x.tries(2, 2, -1);
             x.tries(2, 2, -1);
             x.tries(2, 3, -1);
-            is("law v" + signs[i], Due.law(x, "v" + signs[i] + "(1=1);a(1=2)"), 2);
+            is("law v" + signs[i], Towns.law(x, "v" + signs[i] + "(1=1);a(1=2)"), 2);
             is("v is " + signs[i], x.has(1, 2, 4), alone[i]);
-            is("law c" + signs[i], Due.law(x, "c" + signs[i] + "(1=1)"), 1);
+            is("law c" + signs[i], Towns.law(x, "c" + signs[i] + "(1=1)"), 1);
             is("c is " + signs[i], x.cost(1, 2, 2), signs[i] == 'q' ? 2 : alone[i]);
             int[] inAlike = {2, 3, 5, 3, 4, 1, 0, 0, 0, 0, 0, 0};
-            is("law a", Due.law(x, "a(" + signs[i] + "=" + inAlike[i] + "&k=2)"), 1);
+            is("law a", Towns.law(x, "a(" + signs[i] + "=" + inAlike[i] + "&k=2)"), 1);
             is("in a it is " + signs[i], x.alike(2, 3), 1);
-            is("law a", Due.law(x, "a(!" + signs[i] + "=" + inAlike[i] + "&k=2)"), 1);
+            is("law a", Towns.law(x, "a(!" + signs[i] + "=" + inAlike[i] + "&k=2)"), 1);
             is("in a it is not " + signs[i], x.alike(2, 3), 0);
         }
         SecondTry x = townWithLaw("v[q+1]*10+d(1=1);f1(q<8)");
@@ -243,8 +229,8 @@ public final class PromisesTest {
     }
 
     private static int v(String text) {
-        SecondTry x = town();
-        return Due.law(x, text) < 0 ? -1 : x.has(0, 0, 4);
+        SecondTry x = Towns.town();
+        return Towns.law(x, text) < 0 ? -1 : x.has(0, 0, 4);
     }
 
     private static void lawConditions() {
@@ -301,30 +287,30 @@ public final class PromisesTest {
         is("the tape stays", x.count(4), 20);
         is("00", x.plan(0, 2), 1);
         is("the tape is empty", x.count(4), 0);
-        is("11&7", Due.plan(x, 0, "11&7"), 1);
-        is("rounds", Due.plan(x, 0, "(0,(1,2)2)3,4"), 16);
+        is("11&7", Towns.plan(x, 0, "11&7"), 1);
+        is("rounds", Towns.plan(x, 0, "(0,(1,2)2)3,4"), 16);
         is("steps left", x.count(80), 16);
-        is("99", Due.plan(x, 0, "99"), -3000);
-        is("12 in rounds", Due.plan(x, 0, "(0,12)2"), -3003);
-        is("a person 9", Due.plan(x, 0, "0&9"), -3002);
-        is("a person with two digits", Due.plan(x, 0, "0&11"), -1003);
-        is("two persons", Due.plan(x, 0, "0&1&2"), -1003);
-        is("rounds with a person", Due.plan(x, 0, "(0)2&1"), -1004);
-        is("rounds twice", Due.plan(x, 0, "(0)22"), -1004);
-        is("rounds 0", Due.plan(x, 0, "(0)0"), -1003);
-        is("no comma", Due.plan(x, 0, "(0)2(1)2"), -1004);
-        is("two commas", Due.plan(x, 0, "0,,1"), -1002);
-        is("a comma ahead", Due.plan(x, 0, ",1"), -1000);
-        is("three open", Due.plan(x, 0, "(((0)2)2)2,(((0)2)2)2"), 16);
-        is("four open", Due.plan(x, 0, "(0,((0,(0)2)2)2)2"), -5007);
+        is("99", Towns.plan(x, 0, "99"), -3000);
+        is("12 in rounds", Towns.plan(x, 0, "(0,12)2"), -3003);
+        is("a person 9", Towns.plan(x, 0, "0&9"), -3002);
+        is("a person with two digits", Towns.plan(x, 0, "0&11"), -1003);
+        is("two persons", Towns.plan(x, 0, "0&1&2"), -1003);
+        is("rounds with a person", Towns.plan(x, 0, "(0)2&1"), -1004);
+        is("rounds twice", Towns.plan(x, 0, "(0)22"), -1004);
+        is("rounds 0", Towns.plan(x, 0, "(0)0"), -1003);
+        is("no comma", Towns.plan(x, 0, "(0)2(1)2"), -1004);
+        is("two commas", Towns.plan(x, 0, "0,,1"), -1002);
+        is("a comma ahead", Towns.plan(x, 0, ",1"), -1000);
+        is("three open", Towns.plan(x, 0, "(((0)2)2)2,(((0)2)2)2"), 16);
+        is("four open", Towns.plan(x, 0, "(0,((0,(0)2)2)2)2"), -5007);
         is("the steps stay", x.count(80), 16);
-        is("81 steps inside", Due.plan(x, 0, "0,((0)9)9"), -6002);
-        is("an inner one first", Due.plan(x, 0, "(((0)9)9)9"), -6001);
-        is("40 tries", Due.plan(x, 0, rowOf(40)), 40);
-        is("41 do not fit into 80 bytes", Due.plan(x, 0, "(0)9,(0)9,(0)9,(0)9,0,0,0,0,11&x"), -1031);
-        is("the 41st with a person", Due.plan(x, 0, "(0)9,(0)9,(0)9,(0)9,0,0,0,0,11&2"), -6028);
-        is("the 41st above 11", Due.plan(x, 0, "(0)9,(0)9,(0)9,(0)9,0,0,0,0,12"), -3028);
-        is("the 41st and what can't stand", Due.plan(x, 0, "(0)9,(0)9,(0)9,(0)9,0,0,0,0,1x"), -6028);
+        is("81 steps inside", Towns.plan(x, 0, "0,((0)9)9"), -6002);
+        is("an inner one first", Towns.plan(x, 0, "(((0)9)9)9"), -6001);
+        is("40 tries", Towns.plan(x, 0, rowOf(40)), 40);
+        is("41 do not fit into 80 bytes", Towns.plan(x, 0, "(0)9,(0)9,(0)9,(0)9,0,0,0,0,11&x"), -1031);
+        is("the 41st with a person", Towns.plan(x, 0, "(0)9,(0)9,(0)9,(0)9,0,0,0,0,11&2"), -6028);
+        is("the 41st above 11", Towns.plan(x, 0, "(0)9,(0)9,(0)9,(0)9,0,0,0,0,12"), -3028);
+        is("the 41st and what can't stand", Towns.plan(x, 0, "(0)9,(0)9,(0)9,(0)9,0,0,0,0,1x"), -6028);
     }
 
     private static String rowOf(int steps) {
@@ -337,7 +323,7 @@ public final class PromisesTest {
 
     private static void tries() {
         DUE.part("promise 7");
-        SecondTry x = town();
+        SecondTry x = Towns.town();
         x.kind(4, 1, 0, 3);
         is("not told person", x.tries(3, 0, -1), SecondTry.NONE);
         is("not told kind", x.tries(0, 5, -1), SecondTry.NONE);
@@ -438,7 +424,7 @@ public final class PromisesTest {
         x.buys(0, 0, 1);
         is("the seller has no last try", x.has(1, 0, 2), -2);
         is("the first try counts then", x.tries(0, 0, -1), 1);
-        x = town();
+        x = Towns.town();
         x.tries(1, 0, -1);
         x.person(0, 0);
         is("without c it costs nothing", x.buys(0, 0, 1), 0);
@@ -446,38 +432,38 @@ public final class PromisesTest {
 
     private static void days() {
         DUE.part("promise 9");
-        SecondTry x = town();
+        SecondTry x = Towns.town();
         x.kind(4, 12, 0, 0);
         is("n 0", x.days(0), SecondTry.NONE);
         is("n 61", x.days(61), SecondTry.NONE);
         is("n below 0", x.days(-5), SecondTry.NONE);
         is("the day", x.count(0), 0);
-        Due.plan(x, 0, "(3)4,0");
+        Towns.plan(x, 0, "(3)4,0");
         is("three of four hours fit: two count", x.days(1), 2);
         is("steps left", x.count(80), 2);
         is("the day", x.count(0), 1);
         is("then the rest", x.days(1), 1);
         is("steps left", x.count(80), 0);
         is("of the day", x.has(0, 0, 2), 1);
-        Due.plan(x, 1, "4,9,0&1,0&7,1");
+        Towns.plan(x, 1, "4,9,0&1,0&7,1");
         is("what can't be is passed over without hours", x.days(1), 0);
         is("1 is left", x.count(81), 1);
         is("60 days", x.days(60), 0);
         is("the day", x.count(0), 63);
         x = townWithLaw("v1(q=8)");
-        Due.plan(x, 0, "0&1,0&1,1");
+        Towns.plan(x, 0, "0&1,0&1,1");
         is("with somebody", x.days(1), 2);
-        Due.plan(x, 1, "0,0");
-        Due.plan(x, 0, "2,2");
+        Towns.plan(x, 1, "0,0");
+        Towns.plan(x, 0, "2,2");
         is("all people", x.days(1), 2);
-        Due.plan(x, 0, "2,2");
-        Due.plan(x, 0, "3");
+        Towns.plan(x, 0, "2,2");
+        Towns.plan(x, 0, "3");
         is("in place of what is left", x.count(80), 1);
     }
 
     private static void tried() {
         DUE.part("promise 10");
-        SecondTry x = town();
+        SecondTry x = Towns.town();
         x.kind(4, 5, 0, 1);
         x.kind(5, 1, 0, 1);
         is("n 0", x.tried(0, 0), SecondTry.NONE);
@@ -487,8 +473,8 @@ public final class PromisesTest {
         is("what 9", x.tried(1, 9), SecondTry.NONE);
         is("what 13: not told", x.tried(1, 13), SecondTry.NONE);
         is("what 18", x.tried(1, 18), SecondTry.NONE);
-        Due.plan(x, 2, "(4)3,5,5");
-        Due.plan(x, 1, "0,0,3,3,0,5,5,0");
+        Towns.plan(x, 2, "(4)3,5,5");
+        Towns.plan(x, 1, "0,0,3,3,0,5,5,0");
         int[][] wants = {{8, 13, 13}, {3, 5, 5}, {0, 0, 0}, {2, 2, 2}, {4, 4, 4}, {22, 31, 31}};
         int[] lengths = {1, 2, 60};
         for (int what = 0; what <= 5; what++) {
@@ -505,8 +491,8 @@ public final class PromisesTest {
         is("nothing is changed", x.count(92), 0);
         is("it goes by as it was tried", x.days(2), 5);
         is("it stalls no more", x.tried(60, 2), -2);
-        Due.plan(x, 2, "2,2,5,5");
-        Due.plan(x, 1, "5");
+        Towns.plan(x, 2, "2,2,5,5");
+        Towns.plan(x, 1, "5");
         is("on a later day", x.tried(9, 2), 2);
         is("on a later day", x.tried(9, 3), 2);
         is("on a later day", x.tried(9, 4), 5);
@@ -554,7 +540,7 @@ public final class PromisesTest {
         is("another clause, another day", x.alike(3, 0), 0);
         x.days(1);
         is("another clause", x.alike(3, 0), 1);
-        is("without an a none", town().alike(0, 1), 0);
+        is("without an a none", Towns.town().alike(0, 1), 0);
         x = townWithLaw("v3(1=1)");
         is("without an a none", x.alike(0, 1), 0);
     }
@@ -575,7 +561,7 @@ public final class PromisesTest {
 
     private static void soonest() {
         DUE.part("promise 14");
-        SecondTry x = town();
+        SecondTry x = Towns.town();
         x.kind(4, 5, 0, 1);
         x.kind(5, 6, 0, 16);
         is("not told person", x.soonest(3, 1, 0, 0, 0), SecondTry.NONE);
@@ -712,32 +698,27 @@ public final class PromisesTest {
         is("without a", x.loophole(1, 0, 1), 0);
         is("to none", x.loophole(0, 7, 0), 0);
         is("to none", x.loophole(0, 7, 1), 256);
-        Due.law(x, "a(m>0)");
+        Towns.law(x, "a(m>0)");
         is("the least of one mark", x.loophole(1, 0, 0), 2);
         is("one mark for both", x.loophole(3, 0, 0), 4);
         is("1 and not 0", x.loophole(2, 1, 0), 8);
         is("1 and not 0", x.loophole(2, 1, 1), 32);
         is("none to 2", x.loophole(4, 0, 0), -2);
-        Due.law(x, "a(m>1)");
+        Towns.law(x, "a(m>1)");
         is("fewest marks, not the least number", x.loophole(3, 0, 0), 14);
-        Due.law(x, "a(x=7|x=64|x=32)");
+        Towns.law(x, "a(x=7|x=64|x=32)");
         is("fewest marks, then the least number", x.loophole(1, 0, 0), 32);
         is("how many", x.loophole(1, 0, 1), 3);
-        Due.law(x, "a(k=12&h=1&x=255-d&y=12&j=1)");
+        Towns.law(x, "a(k=12&h=1&x=255-d&y=12&j=1)");
         is("a kind 12 of one hour", x.loophole(2, 5, 0), 255);
         is("how many", x.loophole(2, 5, 1), 1);
         x.days(1);
         is("on the day", x.loophole(2, 5, 0), 254);
     }
 
-    private static int jobs(SecondTry x, int people, int what, int... row) {
-        Due.feed(x, Due.bytes(row));
-        return x.jobs(row.length, people, what);
-    }
-
     private static void jobs() {
         DUE.part("promise 17");
-        SecondTry x = town();
+        SecondTry x = Towns.town();
         is("no bytes", x.jobs(1, 1, 10), SecondTry.NONE);
         x.feed(0, 0, 0, 0, 0);
         is("n 0", x.jobs(0, 1, 10), SecondTry.NONE);
@@ -745,48 +726,48 @@ public final class PromisesTest {
         is("the tape stays", x.count(4), 20);
         is("no such people", x.jobs(1, 8, 10), -4);
         is("the tape is empty", x.count(4), 0);
-        is("nobody", jobs(x, 0, 10, 0), -4);
-        is("people below 0", jobs(x, -1, 10, 0), -4);
-        is("no such kind", jobs(x, 1, 10, 4), -2);
-        is("a byte above", jobs(x, 1, 10, 0, 255), -2);
-        is("no such place", jobs(x, 1, 2, 0, 0), -4);
-        is("no such place", jobs(x, 1, -1, 0, 0), -4);
-        is("what 11", jobs(x, 1, 11, 0, 0), -4);
-        is("one job", jobs(x, 1, 10, 3), 8);
-        is("twice the same", jobs(x, 1, 10, 3, 3), 12);
-        is("among two", jobs(x, 3, 10, 3, 3), 8);
-        is("the least row", jobs(x, 3, 0, 3, 3), 0);
-        is("the least row", jobs(x, 3, 1, 3, 3), 1);
-        is("the longest takes least", jobs(x, 3, 10, 3, 0, 1, 0), 8);
-        is("the longest takes least", jobs(x, 3, 0, 3, 0, 1, 0), 0);
-        is("the others by 1", jobs(x, 3, 1, 3, 0, 1, 0), 1);
-        is("the others by 1", jobs(x, 3, 2, 3, 0, 1, 0), 1);
-        is("three workers", jobs(x, 7, 10, 3, 3, 3), 8);
-        is("eight jobs", jobs(x, 7, 10, 0, 1, 2, 3, 0, 1, 2, 3), 12);
+        is("nobody", Towns.jobs(x, 0, 10, 0), -4);
+        is("people below 0", Towns.jobs(x, -1, 10, 0), -4);
+        is("no such kind", Towns.jobs(x, 1, 10, 4), -2);
+        is("a byte above", Towns.jobs(x, 1, 10, 0, 255), -2);
+        is("no such place", Towns.jobs(x, 1, 2, 0, 0), -4);
+        is("no such place", Towns.jobs(x, 1, -1, 0, 0), -4);
+        is("what 11", Towns.jobs(x, 1, 11, 0, 0), -4);
+        is("one job", Towns.jobs(x, 1, 10, 3), 8);
+        is("twice the same", Towns.jobs(x, 1, 10, 3, 3), 12);
+        is("among two", Towns.jobs(x, 3, 10, 3, 3), 8);
+        is("the least row", Towns.jobs(x, 3, 0, 3, 3), 0);
+        is("the least row", Towns.jobs(x, 3, 1, 3, 3), 1);
+        is("the longest takes least", Towns.jobs(x, 3, 10, 3, 0, 1, 0), 8);
+        is("the longest takes least", Towns.jobs(x, 3, 0, 3, 0, 1, 0), 0);
+        is("the others by 1", Towns.jobs(x, 3, 1, 3, 0, 1, 0), 1);
+        is("the others by 1", Towns.jobs(x, 3, 2, 3, 0, 1, 0), 1);
+        is("three workers", Towns.jobs(x, 7, 10, 3, 3, 3), 8);
+        is("eight jobs", Towns.jobs(x, 7, 10, 0, 1, 2, 3, 0, 1, 2, 3), 12);
         x.person(3, 0);
-        is("four people", jobs(x, 15, 10, 0), -4);
+        is("four people", Towns.jobs(x, 15, 10, 0), -4);
         is("nothing is changed", x.count(90), 0);
         x.kind(4, 1, 0, 1);
-        is("needs what it has done", jobs(x, 1, 10, 0, 4), 4);
-        is("needs what it does later", jobs(x, 1, 10, 4, 0), -3);
-        is("needs what another does", jobs(x, 3, 10, 4, 0), -3);
-        is("both by one", jobs(x, 3, 0, 0, 4), 0);
-        is("both by one", jobs(x, 3, 1, 0, 4), 0);
-        is("no such kind, no such people", jobs(x, 0, 10, 5), -2);
+        is("needs what it has done", Towns.jobs(x, 1, 10, 0, 4), 4);
+        is("needs what it does later", Towns.jobs(x, 1, 10, 4, 0), -3);
+        is("needs what another does", Towns.jobs(x, 3, 10, 4, 0), -3);
+        is("both by one", Towns.jobs(x, 3, 0, 0, 4), 0);
+        is("both by one", Towns.jobs(x, 3, 1, 0, 4), 0);
+        is("no such kind, no such people", Towns.jobs(x, 0, 10, 5), -2);
         x = townWithLaw("v19(k=0);v20(k=1)");
-        is("void 19 times", jobs(x, 1, 10, 0), 20);
-        is("void 20 times", jobs(x, 1, 10, 1), -3);
-        is("then it counts at once", jobs(x, 1, 10, 0, 0), 21);
+        is("void 19 times", Towns.jobs(x, 1, 10, 0), 20);
+        is("void 20 times", Towns.jobs(x, 1, 10, 1), -3);
+        is("then it counts at once", Towns.jobs(x, 1, 10, 0, 0), 21);
         x = townWithLaw("v1-p(k=0);v9(o<3);v0(1=1)");
-        is("v by the person", jobs(x, 3, 0, 0), 1);
-        is("o by its own tries alone", jobs(x, 3, 10, 3, 3), 16);
-        is("o by its own tries alone", jobs(x, 1, 10, 3, 3), 20);
+        is("v by the person", Towns.jobs(x, 3, 0, 0), 1);
+        is("o by its own tries alone", Towns.jobs(x, 3, 10, 3, 3), 16);
+        is("o by its own tries alone", Towns.jobs(x, 1, 10, 3, 3), 20);
         x = townWithLaw("f1(1=1);a(1=1)");
         x.tries(0, 0, -1);
         x.days(9);
-        is("nothing is forgotten", jobs(x, 1, 10, 3), 4);
+        is("nothing is forgotten", Towns.jobs(x, 1, 10, 3), 4);
         x = townWithLaw("v9(w=1);v1(1=1)");
-        is("w as it is then", jobs(x, 1, 10, 0, 0), 10);
+        is("w as it is then", Towns.jobs(x, 1, 10, 0, 0), 10);
     }
 
     private static void rivals() {
@@ -809,11 +790,6 @@ public final class PromisesTest {
         is("999 each", x.rivals(999, 999, 0), 1);
     }
 
-    private static int histories(SecondTry x, int[] kinds, int v, int what, int... told) {
-        Due.feed(x, Due.bytes(kinds) + Due.bytes(told));
-        return x.histories(kinds.length, told.length / 2, v, what);
-    }
-
     private static void histories() {
         DUE.part("promise 19");
         SecondTry x = townWithLaw("a(k=0&j=1)");
@@ -830,33 +806,33 @@ public final class PromisesTest {
         is("what 3", x.histories(1, 0, 0, 3), SecondTry.NONE);
         is("21 bytes", x.histories(1, 10, 0, 0), SecondTry.NONE);
         is("the tape stays", x.count(4), 20);
-        is("not told", histories(x, new int[] {4}, 0, 0), 4);
-        is("not told", histories(x, new int[] {4}, 0, 0), -3);
+        is("not told", Towns.histories(x, new int[] {4}, 0, 0), 4);
+        is("not told", Towns.histories(x, new int[] {4}, 0, 0), -3);
         is("the tape is empty", x.count(4), 0);
-        is("one twice", histories(x, new int[] {1, 1}, 0, 0), -3);
-        is("no such place", histories(x, one, 1, 0, 1, 1), -3);
-        is("neither 1 nor 0", histories(x, one, 1, 0, 0, 2), -3);
-        is("all fit", histories(x, one, 2, 0), 4);
-        is("2 or 3", histories(x, one, 2, 0, 0, 1), 2);
-        is("the first", histories(x, one, 2, 1, 0, 1), 2);
-        is("0 or 1", histories(x, one, 2, 0, 0, 0), 2);
-        is("just 1", histories(x, one, 2, 1, 0, 0, 0, 1), 1);
-        is("none", histories(x, one, 2, 0, 0, 1, 0, 0), 0);
-        is("no first", histories(x, one, 2, 1, 0, 1, 0, 0), -2);
-        is("ten tries", histories(x, one, 9, 0, 0, 0, 0, 0, 0, 0, 0, 0, 0, 0, 0, 0, 0, 0, 0, 1, 0, 1, 0, 1), 1);
-        is("0 and 1 are old for 0", histories(x, two, 3, 0, 0, 1), 10);
-        is("the first place is highest", histories(x, two, 3, 1, 0, 1), 3);
-        is("1 alone is old for 1", histories(x, two, 3, 0, 1, 1), 4);
-        is("a try of 0 is not old for 1", histories(x, two, 1, 0, 0, 0, 1, 0), 1);
-        is("nor told ones: a try of 1 is old for 0", histories(x, two, 1, 0, 1, 0, 0, 1), 4);
-        is("the one that parts best", histories(x, two, 3, 2), 0);
-        is("the one that parts best", histories(x, two, 2, 2), 1);
-        is("of like ones the lowest", histories(x, new int[] {2, 3}, 2, 2), 0);
-        is("the next one tells", histories(x, new int[] {2, 3}, 2, 2, 0, 1), 1);
-        is("four and four part better than two and six", histories(x, new int[] {2, 3}, 3, 2, 1, 0, 1, 0), 1);
-        is("the next one of three", histories(x, new int[] {2, 3, 1}, 2, 2, 0, 1, 1, 1), 2);
+        is("one twice", Towns.histories(x, new int[] {1, 1}, 0, 0), -3);
+        is("no such place", Towns.histories(x, one, 1, 0, 1, 1), -3);
+        is("neither 1 nor 0", Towns.histories(x, one, 1, 0, 0, 2), -3);
+        is("all fit", Towns.histories(x, one, 2, 0), 4);
+        is("2 or 3", Towns.histories(x, one, 2, 0, 0, 1), 2);
+        is("the first", Towns.histories(x, one, 2, 1, 0, 1), 2);
+        is("0 or 1", Towns.histories(x, one, 2, 0, 0, 0), 2);
+        is("just 1", Towns.histories(x, one, 2, 1, 0, 0, 0, 1), 1);
+        is("none", Towns.histories(x, one, 2, 0, 0, 1, 0, 0), 0);
+        is("no first", Towns.histories(x, one, 2, 1, 0, 1, 0, 0), -2);
+        is("ten tries", Towns.histories(x, one, 9, 0, 0, 0, 0, 0, 0, 0, 0, 0, 0, 0, 0, 0, 0, 0, 0, 1, 0, 1, 0, 1), 1);
+        is("0 and 1 are old for 0", Towns.histories(x, two, 3, 0, 0, 1), 10);
+        is("the first place is highest", Towns.histories(x, two, 3, 1, 0, 1), 3);
+        is("1 alone is old for 1", Towns.histories(x, two, 3, 0, 1, 1), 4);
+        is("a try of 0 is not old for 1", Towns.histories(x, two, 1, 0, 0, 0, 1, 0), 1);
+        is("nor told ones: a try of 1 is old for 0", Towns.histories(x, two, 1, 0, 1, 0, 0, 1), 4);
+        is("the one that parts best", Towns.histories(x, two, 3, 2), 0);
+        is("the one that parts best", Towns.histories(x, two, 2, 2), 1);
+        is("of like ones the lowest", Towns.histories(x, new int[] {2, 3}, 2, 2), 0);
+        is("the next one tells", Towns.histories(x, new int[] {2, 3}, 2, 2, 0, 1), 1);
+        is("four and four part better than two and six", Towns.histories(x, new int[] {2, 3}, 3, 2, 1, 0, 1, 0), 1);
+        is("the next one of three", Towns.histories(x, new int[] {2, 3, 1}, 2, 2, 0, 1, 1, 1), 2);
         x.kind(4, 1, 0, 1);
-        is("no needs", histories(x, new int[] {4}, 0, 0, 0, 1), 4);
+        is("no needs", Towns.histories(x, new int[] {4}, 0, 0, 0, 1), 4);
         is("nothing is changed", x.count(90), 0);
     }
 
@@ -924,10 +900,10 @@ public final class PromisesTest {
 
     private static void keepAndUndo() {
         DUE.part("promises 22, 23");
-        SecondTry x = town();
+        SecondTry x = Towns.town();
         is("none was kept", x.undo(), false);
         x.tries(0, 0, -1);
-        Due.plan(x, 0, "3,3,3,3,3");
+        Towns.plan(x, 0, "3,3,3,3,3");
         x.days(1);
         is("keep", x.keep(), 1);
         x.days(1);
@@ -937,8 +913,8 @@ public final class PromisesTest {
         x.person(0, 7);
         x.kind(4, 2, 0, 0);
         x.tries(0, 4, -1);
-        Due.plan(x, 1, "0");
-        Due.law(x, "v7(1=1)");
+        Towns.plan(x, 1, "0");
+        Towns.law(x, "v7(1=1)");
         x.feed(0, 0, 0, 0, 0);
         is("undo", x.undo(), true);
         is("the day", x.count(0), 1);
@@ -967,7 +943,7 @@ public final class PromisesTest {
 
     private static void check() {
         DUE.part("promise 24");
-        SecondTry x = town();
+        SecondTry x = Towns.town();
         is("no bytes", x.check(0, 1), -2);
         is("no numbers", x.check(0, 0), SecondTry.NONE);
         x.feed(0, 0, 0, 0, 0);
@@ -1004,7 +980,7 @@ public final class PromisesTest {
 
     private static void count() {
         DUE.part("promise 25");
-        SecondTry x = town();
+        SecondTry x = Towns.town();
         x.kind(11, 7, 130, 5);
         int[] gone = {-1, 5, 9, 14, 22, 29, 34, 42, 49, 54, 62, 69, 73, 78, 79, 83, 88, 93, 98, 103, 108, 1000,
             Integer.MIN_VALUE, Integer.MAX_VALUE};
@@ -1029,16 +1005,16 @@ public final class PromisesTest {
     /** Days end at 9999, tries and counted ones at 999. */
     private static void bounds() {
         DUE.part("bounds");
-        SecondTry x = town();
+        SecondTry x = Towns.town();
         for (int i = 0; i < 166; i++) {
             x.days(60);
         }
         is("the day", x.count(0), 9960);
-        Due.plan(x, 0, "(3,3,3)9");
+        Towns.plan(x, 0, "(3,3,3)9");
         is("as many days as can", x.tried(60, 0), 27);
         x.days(38);
         is("the day", x.count(0), 9998);
-        Due.plan(x, 0, "(3,3,3)9");
+        Towns.plan(x, 0, "(3,3,3)9");
         is("one day can", x.tried(60, 0), 3);
         is("one day goes by", x.days(60), 3);
         is("the last day", x.count(0), 9999);
@@ -1047,10 +1023,10 @@ public final class PromisesTest {
         is("steps left", x.count(80), 24);
         is("tries go on", x.tries(0, 3, -1), 1);
         is("of the last day", x.has(0, 3, 2), 9999);
-        x = town();
+        x = Towns.town();
         for (int i = 0; i < 25; i++) {
-            Due.plan(x, 0, "((0)5)8");
-            Due.plan(x, 1, "((0)5)8");
+            Towns.plan(x, 0, "((0)5)8");
+            Towns.plan(x, 1, "((0)5)8");
             x.days(4);
         }
         is("999 tries", x.has(0, 0, 0), 999);
