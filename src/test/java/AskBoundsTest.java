@@ -11,6 +11,7 @@ public final class AskBoundsTest {
         soonestOfThreeTries();
         soonestAtNinetyNine();
         soonestAtFull();
+        lettersNotTold();
         cheapestRefused();
         cheapestAtHours();
         cheapestOfThreeGoes();
@@ -150,6 +151,33 @@ public final class AskBoundsTest {
         is("so it has for cheapest", x.cheapest(0, 16, 4, 10, 0), 0);
         Towns.goTo(x, 9999);
         is("on the last day, too", x.soonest(0, 16, 4, 1, 0), 5);
+    }
+
+    /** Where a letter is not told it is 0: j, y, m but in a; p, q, n, o, w in a. */
+    private static void lettersNotTold() {
+        DUE.part("letters that are not told");
+        SecondTry x = new SecondTry();
+        for (int k = 0; k < 12; k++) {
+            x.kind(k, 2, 255, 0);
+        }
+        x.person(1, 0);
+        x.person(2, 0);
+        Towns.law(x, "a(1=1);v9*[j+y+m](1=1);f9*[j+y+m](1=1);c5+9*[j+y+m](1=1)");
+        is("soonest: none is void", x.soonest(1, 15, 3, 0, 0), 2);
+        is("jobs: none is void", Towns.jobs(x, 2, 10, 3, 2, 1), 6);
+        is("a try: none is void", x.tries(2, 3, NONE), 1);
+        is("has: v", x.has(2, 11, 4), 0);
+        is("cost", x.cost(1, 3, 2), 5);
+        Towns.law(x, "a(1=1);v1+9*[j+y+m](1=1);c5+9*[j+y+m](1=1)");
+        is("cheapest", x.cheapest(1, 14, 3, 2, 0), 5);
+        Towns.law(x, "a(p+q+n+o+w>0)");
+        Towns.tries(x, 2, 3, 4);
+        is("none are alike", x.alike(3, 2), 0);
+        is("in a try none are", x.has(2, 4, 3), 0);
+        is("in soonest none are", x.soonest(2, 24, 4, 0, 0), 4);
+        is("in jobs none are", Towns.jobs(x, 4, 10, 4), 4);
+        is("there is no loophole", x.loophole(8, 0, 1), 0);
+        is("of a stranger none are", Towns.histories(x, new int[] {3, 4}, 1, 0, 0, 0), 4);
     }
 
     private static void cheapestRefused() {
@@ -534,6 +562,10 @@ public final class AskBoundsTest {
         is("v 0 tells nothing of any", Towns.histories(x, four, 0, 2), 0);
         is("none fits: the lowest", Towns.histories(x, four, 0, 2, 3, 0), 0);
         is("one place", Towns.histories(x, new int[] {3}, 2, 2), 0);
+        Towns.law(x, "a(k<j)");
+        int[] two = {0, 1};
+        is("one and one part better than two and none", Towns.histories(x, two, 2, 2, 0, 0, 0, 1, 1, 0), 1);
+        is("two and one part better than none and three", Towns.histories(x, two, 2, 2, 0, 0), 0);
     }
 
     // ---- promise 20

@@ -12,7 +12,7 @@ public final class RoomTest {
         long before = THREADS.getCurrentThreadAllocatedBytes();
         SecondTry x = new SecondTry();
         long made = THREADS.getCurrentThreadAllocatedBytes() - before;
-        DUE.is("a new object takes " + made + " bytes, 120,000 at most", made <= 120000, true);
+        DUE.is("a new object takes " + made + " bytes, 70,000 at most", made <= 70000, true);
         before = THREADS.getCurrentThreadAllocatedBytes();
         useAll(x, 10);
         made = THREADS.getCurrentThreadAllocatedBytes() - before;

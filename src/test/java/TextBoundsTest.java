@@ -1,3 +1,4 @@
+import java.util.List;
 import java.util.function.BooleanSupplier;
 
 /** The bounds of laws and plans: what can stand where, how deep, how long, and how a law reckons (promises 5, 6). */
@@ -10,9 +11,9 @@ public final class TextBoundsTest {
     private static final String SIGNS = "+-*/%";
     private static final String FACTORS = DIGITS + "khxjymdpqnow[";
     private static final String PIECES = FACTORS + "(!";
-    private static final String HOLDS = "1=1";
-    private static final String FAILS = "1=2";
     private static final String REFUSED = "1/0=1";
+    private static final List<String> HOLDING = List.of("1=1", "1<2", "2>1");
+    private static final List<String> ALL_PIECES = List.of("1=1", "1<2", "2>1", "1=2", "2<2", "2>2", REFUSED);
 
     public static void main(String[] args) {
         lawsRefused();
@@ -330,6 +331,9 @@ public final class TextBoundsTest {
                 DUE.is(a + "<" + b, holds(left + "<" + right), a < b);
                 DUE.is(a + ">" + b, holds(left + ">" + right), a > b);
                 DUE.is(a + "=" + b, holds(left + "=" + right), a == b);
+                DUE.is("!" + a + "<" + b, holds("!" + left + "<" + right), a >= b);
+                DUE.is("!" + a + ">" + b, holds("!" + left + ">" + right), a <= b);
+                DUE.is("!" + a + "=" + b, holds("!" + left + "=" + right), a != b);
             }
         }
     }
@@ -389,7 +393,7 @@ public final class TextBoundsTest {
         if (piece.equals(REFUSED)) {
             throw new IllegalStateException(piece);
         }
-        return piece.equals(HOLDS);
+        return HOLDING.contains(piece);
     }
 
     private static boolean holdsSo(BooleanSupplier condition) {
@@ -403,17 +407,16 @@ public final class TextBoundsTest {
     /** Of a C as much is asked, from the left, as matters: what is not asked can't be refused. */
     private static void askedAsMatters() {
         DUE.part("promise 5, as much as matters");
-        String[] pieces = {HOLDS, FAILS, REFUSED};
-        for (String a : pieces) {
+        for (String a : ALL_PIECES) {
             DUE.is("!" + a, holds("!" + a), holdsSo(() -> !asks(a)));
             DUE.is("!!" + a, holds("!!" + a), holdsSo(() -> asks(a)));
-            for (String b : pieces) {
+            for (String b : ALL_PIECES) {
                 DUE.is(a + "&" + b, holds(a + "&" + b), holdsSo(() -> asks(a) && asks(b)));
                 DUE.is(a + "|" + b, holds(a + "|" + b), holdsSo(() -> asks(a) || asks(b)));
                 DUE.is("!(" + a + "&" + b + ")", holds("!(" + a + "&" + b + ")"), holdsSo(() -> !(asks(a) && asks(b))));
                 DUE.is("!(" + a + "|" + b + ")", holds("!(" + a + "|" + b + ")"), holdsSo(() -> !(asks(a) || asks(b))));
                 DUE.is("!" + a + "|" + b, holds("!" + a + "|" + b), holdsSo(() -> !asks(a) || asks(b)));
-                for (String c : pieces) {
+                for (String c : ALL_PIECES) {
                     asksThree(a, b, c);
                 }
             }

@@ -29,6 +29,7 @@ public final class TownBoundsTest {
         hoursOfADay();
         stepsPassedOver();
         stepsOfFortyOverDays();
+        peopleByNumbers();
         lastDay();
         triedRefused();
         triedStalls();
@@ -38,6 +39,7 @@ public final class TownBoundsTest {
         costBounds();
         keptAndUndone();
         keptWholly();
+        keptThroughAll();
         checkRefused();
         checkPlaces();
         countOfNone();
@@ -600,6 +602,23 @@ public final class TownBoundsTest {
         is("THE DAY of it", x.has(2, 1, 2), 66);
     }
 
+    /** By numbers: who tries first makes the one try that is void for all. */
+    private static void peopleByNumbers() {
+        DUE.part("promise 9, people by numbers");
+        SecondTry x = Towns.full(0);
+        Towns.law(x, "v9(o<1);v0(1=1)");
+        for (int p = 7; p >= 0; p--) {
+            Towns.plan(x, p, p + ",7,(0)9");
+        }
+        is("eight firsts of 0 to 7", x.tried(1, 0), 88);
+        is("one is void of each kind", x.tried(1, 1), 80);
+        is("days", x.days(1), 80);
+        for (int p = 0; p < 8; p++) {
+            is("the KIND of its number is new, but for 7 and 0", x.has(p, p, 1), p == 0 ? 9 : p == 7 ? 2 : 0);
+            is("7 is new to the first alone", x.has(p, 7, 1), p == 0 ? 0 : p == 7 ? 2 : 1);
+        }
+    }
+
     private static void lastDay() {
         DUE.part("THE DAY at 9999");
         SecondTry x = Towns.town();
@@ -842,6 +861,34 @@ public final class TownBoundsTest {
         is("THE LAW stays", Towns.law(x, "c4(1=1);a(1=1)"), 2);
         x.undo();
         is("THE LAW stays as it is now", x.count(3), 2);
+    }
+
+    /** What is asked, and what is refused, leaves what is KEPT. */
+    private static void keptThroughAll() {
+        DUE.part("promises 22, 23, what is KEPT stays");
+        SecondTry x = Towns.withLaw(DUE, "c3(1=1)");
+        Towns.plan(x, 0, "(0,1)9");
+        x.tries(1, 2, NONE);
+        x.days(1);
+        String kept = Towns.look(x);
+        String triedThen = triedOf(x);
+        is("KEPT", x.keep(), 1);
+        x.days(2);
+        x.tries(1, 2, NONE);
+        for (int what = 0; what <= 1; what++) {
+            x.soonest(1, 7, 2, 3, what);
+            x.cheapest(0, 7, 2, 100, what);
+        }
+        is("jobs", Towns.jobs(x, 7, 10, 0, 1, 2, 3), 8);
+        is("histories", Towns.histories(x, new int[] {0, 1}, 1, 0, 0, 1), 12);
+        is("refused", x.tries(9, 0, NONE), NONE);
+        is("refused", x.buys(0, 3, 1), -3);
+        is("refused", x.days(61), NONE);
+        is("refused", x.person(0, -1), false);
+        is("a FAULT", Towns.plan(x, 0, "12"), -3000);
+        is("UNDONE", x.undo(), true);
+        is("it looks as KEPT", Towns.look(x).equals(kept), true);
+        is("PLANS and how far", triedOf(x).equals(triedThen), true);
     }
 
     private static String triedOf(SecondTry x) {
