@@ -9,6 +9,7 @@ public final class AskBoundsTest {
         waysRefused();
         soonestBounds();
         soonestOfThreeTries();
+        soonestOfFourKinds();
         soonestAtNinetyNine();
         soonestAtFull();
         lettersNotTold();
@@ -122,6 +123,32 @@ public final class AskBoundsTest {
         Towns.law(x, "v5(1=1);a(1=1)");
         is("five are void: just three of each", x.soonest(0, 9, 3, 0, 0), 3 + 12);
         is("five are void: the dear ones as first goes", x.soonest(0, 9, 3, 2, 0), 3 + 4);
+    }
+
+    /** Four kinds, and first goes for some: what counts of the dearest or the last one is no first go more. */
+    private static void soonestOfFourKinds() {
+        DUE.part("promise 14, four kinds");
+        SecondTry x = fourKinds(new int[] {3, 12, 11, 1}, 1, "v2(k=1&n=1);v1(1=1)");
+        is("two first goes of 1, two tries of 0", x.soonest(0, 15, 1, 2, 0), 12 + 2 * 3);
+        is("TRIES", x.soonest(0, 15, 1, 2, 1), 3);
+        is("two first goes of 1, one of 0", x.soonest(0, 15, 1, 3, 0), 12 + 3);
+        is("one first go of 1", x.soonest(0, 15, 1, 1, 0), 2 * 12 + 2 * 3);
+        is("none", x.soonest(0, 15, 1, 0, 0), 3 * 12 + 2 * 3);
+        x = fourKinds(new int[] {1, 9, 10, 4}, 0, "v0(k=3&n=0);v5(1=1);a(1=1)");
+        is("two tries of 0, one of 3, two first goes", x.soonest(0, 15, 0, 2, 0), 2 + 4 + 1);
+        is("two tries of 0, three of 3", x.soonest(0, 15, 0, 0, 0), 2 + 3 * 4 + 1);
+        is("two tries of 0, three first goes", x.soonest(0, 15, 0, 3, 0), 2 + 1);
+    }
+
+    /** Kinds 0 to 3 of told hours, 1 with told needs, and a person without coins. */
+    private static SecondTry fourKinds(int[] hours, int needs, String law) {
+        SecondTry x = new SecondTry();
+        for (int k = 0; k < 4; k++) {
+            x.kind(k, hours[k], 0, k == 1 ? needs : 0);
+        }
+        x.person(0, 0);
+        is("law " + law, Towns.law(x, law) > 0 ? 1 : 0, 1);
+        return x;
     }
 
     private static void soonestAtNinetyNine() {

@@ -345,8 +345,8 @@ public final class ModelTest {
 
     private void callSearch() {
         int p = p();
-        int kinds = someKinds(chance(80) ? 3 : 5);
-        int k = Integer.bitCount(kinds) > 0 && chance(95) ? Integer.numberOfTrailingZeros(chance(50) ? kinds : Integer.highestOneBit(kinds)) : k();
+        int kinds = someKinds(chance(50) ? 3 : chance(80) ? 4 : 5);
+        int k = chance(95) ? oneOf(kinds) : k();
         int what = from(0, 1);
         if (chance(50)) {
             int goes = from(0, 3);
@@ -357,6 +357,15 @@ public final class ModelTest {
             due.is("cheapest(" + p + ", " + kinds + ", " + k + ", " + hours + ", " + what + ")",
                 x.cheapest(p, kinds, k, hours, what), m.cheapest(p, kinds, k, hours, what));
         }
+    }
+
+    /** One of the bits' numbers, or of all where there are none. */
+    private int oneOf(int bits) {
+        int k = below(12);
+        for (int i = 0; i < 12 && (bits >> k & 1) == 0; i++) {
+            k = (k + 1) % 12;
+        }
+        return k;
     }
 
     private void callJobs() {
